@@ -166,6 +166,14 @@ public final class DoTest {
         CHECK.not(x, "with a ticket", x.put(0, 0, 1, 0), 7);
         x.wipe(0);
         CHECK.not(x, "wiped", x.put(0, 0, 1, -1), 7);
+        x = Check.with("keeper a at 1;keeper b at 2;key x at 1;");
+        for (int i = 0; i < 30; i++) {
+            x.put(0, 0, i, -1);
+        }
+        CHECK.fine(x, "get of thirty by b", x.get(0, 1, 0), 30);
+        CHECK.fine(x, "put that saw all thirty", x.put(0, 1, 77, 0), 2);
+        CHECK.fine(x, "a lost them", x.twins(0, 0), 1);
+        CHECK.fine(x, "twin(0, 0, 0, 1)", x.twin(0, 0, 0, 1), 1);
         x = Check.with("keeper a at 1;key x at 1;key y at 1;");
         x.put(0, 0, 1, -1);
         x.put(0, 0, 2, -1);

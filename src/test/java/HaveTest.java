@@ -159,7 +159,9 @@ public final class HaveTest {
         CHECK.fine(x, "late(0, 0)", x.late(0, 0), 0);
         CHECK.fine(x, "late(1, 0)", x.late(1, 0), 2);
         CHECK.fine(x, "late(4, 0)", x.late(4, 0), 3);
+        CHECK.fine(x, "late(0, 1) of another key", x.late(0, 1), 0);
         x.put(0, 1, 4, -1);
+        CHECK.fine(x, "late(2, 0) ahead of fresh()", x.late(2, 0), 2);
         CHECK.fine(x, "fresh(0): nobody has all", x.fresh(0), 0);
         CHECK.fine(x, "late(0, 0)", x.late(0, 0), 1);
         CHECK.fine(x, "late(2, 0)", x.late(2, 0), 2);
@@ -253,6 +255,9 @@ public final class HaveTest {
         CHECK.fine(x, "safe(0, 5), with a hint", x.safe(0, 5), 4);
         CHECK.fine(x, "safe(0, 1000)", x.safe(0, 1000), 3);
         CHECK.not(x, "safe(0, 6)", x.safe(0, 6), 6);
+        CHECK.not(x, "safe(0, 0)", x.safe(0, 0), 6);
+        x.put(1, 0, 0, -1);
+        CHECK.fine(x, "safe(1, 0)", x.safe(1, 0), 3);
         CHECK.not(x, "safe(1, 5)", x.safe(1, 5), 6);
         CHECK.not(x, "safe(2, 5) of a sum", x.safe(2, 5), 7);
         CHECK.not(x, "safe(0, 1001)", x.safe(0, 1001), 1);

@@ -81,6 +81,7 @@ public final class LifeTest {
         CHECK.fine(x, "hints(4)", x.hints(4), 1);
         lived(x, 0, 0, 1, 0, 0, 0);
         CHECK.fine(x, "live(0) from what is now", x.live(0), 4);
+        lived(x, 0, 0, 1, 0, 0, 0);
         CHECK.fine(x, "twins(0, 0)", x.twins(0, 0), 2);
     }
 
@@ -329,9 +330,17 @@ public final class LifeTest {
         CHECK.fine(x, "hints(0)", x.hints(0), 1);
         CHECK.fine(x, "ticket(2, 0)", x.ticket(2, 0), 1);
         CHECK.fine(x, "partOf(4, 2, 3)", x.partOf(4, 2, 3), 6);
+        x.mark();
+        x.part(0);
+        x.fall(2, false);
+        CHECK.fine(x, "hand() of the hints kept", x.hand(), 2);
+        CHECK.fine(x, "twins(2, 0)", x.twins(2, 0), 2);
+        CHECK.fine(x, "partOf(2, 2, 3)", x.partOf(2, 2, 3), 6);
+        CHECK.fine(x, "put with the ticket kept", x.put(0, 0, 3, 2), 3);
+        CHECK.fine(x, "the first is gone", x.twin(0, 0, 0, 0), 2);
+        x.back();
         // what a mark does not keep
         CHECK.fine(x, "got(0)", x.got(0), 500);
-        CHECK.fine(x, "isDone()", x.isDone(), 1);
         CHECK.fine(x, "read(0, 1)", x.read(0, 1), 5);
         CHECK.due("top()", x.top(), 1);
         CHECK.fine(x, "lived(0)", x.lived(0), 0);

@@ -58,6 +58,9 @@ public final class MayBeTest {
         CHECK.fine(x, "lost(31)", x.lost(31), 4);
         x.add(2, 3, 5);
         CHECK.fine(x, "lost(31): no sums", x.lost(31), 4);
+        x.put(1, 3, 999, -1);
+        x.put(1, 3, 0, -1);
+        CHECK.fine(x, "lost(31): 0 and 999, too", x.lost(31), 6);
         CHECK.not(x, "lost(32)", x.lost(32), 1);
         CHECK.not(x, "lost(-1)", x.lost(-1), 1);
         CHECK.not(x, "lost(min)", x.lost(Integer.MIN_VALUE), 1);
@@ -121,6 +124,17 @@ public final class MayBeTest {
         fraction(x, "of 5", 2, 3);
         CHECK.fine(x, "odds(0, 0, 1000)", x.odds(0, 0, 1000));
         fraction(x, "of a grave", 2, 3);
+        x.put(0, 0, 0, -1);
+        CHECK.fine(x, "odds(0, 0, 0)", x.odds(0, 0, 0));
+        fraction(x, "of 0", 1, 1);
+        x.odds(0, 0, 1000);
+        x.odds(0, 0, 6);
+        fraction(x, "of none", 0, 1);
+        x = Check.with(FIVE);
+        x.part(1);
+        x.put(0, 0, 5, -1);
+        x.part(0);
+        x.odds(0, 0, 5);
         CHECK.not(x, "odds(0, 0, 1001)", x.odds(0, 0, 1001), 1);
         CHECK.not(x, "odds(0, 0, -1)", x.odds(0, 0, -1), 1);
         CHECK.not(x, "odds(0, 5, 1)", x.odds(0, 5, 1), 1);

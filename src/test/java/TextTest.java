@@ -9,6 +9,7 @@ public final class TextTest {
         shelfFaults();
         shelfTakes();
         oldShelfStays();
+        hintsGo();
         daysFaults();
         daysTakes();
         faultTells();
@@ -137,6 +138,24 @@ public final class TextTest {
         CHECK.fine(x, "told(5)", x.told(5), 63);
     }
 
+    private static void hintsGo() {
+        String three = "places 2 reads 1 writes 1;keeper a at 1;keeper b at 2;keeper c at 3;key x at 1;";
+        TwinShelf x = Check.with(three);
+        x.fall(1, true);
+        x.put(0, 0, 8, -1);
+        CHECK.fine(x, "hints(2)", x.hints(2), 1);
+        CHECK.fine(x, "a new shelf", Check.shelf(x, three), 1);
+        CHECK.fine(x, "hints(2)", x.hints(2), 0);
+        CHECK.fine(x, "hand()", x.hand(), 0);
+        x.fall(1, true);
+        x.put(0, 0, 9, -1);
+        CHECK.fine(x, "holders(0, 8)", x.holders(0, 8), 0);
+        x.fall(1, false);
+        x.hand();
+        CHECK.fine(x, "twins(1, 0)", x.twins(1, 0), 1);
+        CHECK.fine(x, "seen(1, 0, 0)", x.seen(1, 0, 0), 1);
+    }
+
     private static void oldShelfStays() {
         TwinShelf x = Check.with(RING);
         x.put(0, 0, 7, -1);
@@ -160,6 +179,9 @@ public final class TextTest {
         CHECK.fine(x, "told(6)", x.told(6), 0);
         CHECK.fine(x, "told(7)", x.told(7), 0);
         CHECK.not(x, "live(0)", x.live(0), 6);
+        CHECK.fine(x, "hints(1)", x.hints(1), 0);
+        CHECK.fine(x, "hand()", x.hand(), 0);
+        CHECK.fine(x, "holders(0, 7)", x.holders(0, 7), 0);
         CHECK.fine(x, "counts begin anew", x.put(0, 0, 7, -1), 2);
         CHECK.fine(x, "twin(0, 0, 0, 2)", x.twin(0, 0, 0, 2), 1);
     }
@@ -259,6 +281,19 @@ public final class TextTest {
         daysTake("hand;".repeat(30), 30);
         daysTake("loop 1;end;".repeat(26), 26);
         daysTake("put\nx at\na 0001 ;", 1);
+        TwinShelf six = Check.with("keeper a at 1;keeper b at 2;keeper c at 3;keeper d at 4;keeper e at 5;keeper f at 6;");
+        CHECK.fine(six, "part of all six", Check.days(six, "part f a e b d c;"), 1);
+        six.live(0);
+        CHECK.fine(six, "told(6)", six.told(6), 63);
+        CHECK.not(six, "a seventh name", Check.days(six, "part f a e b d c f;"), 9);
+        CHECK.due("fault(0)", six.fault(0), 5);
+        CHECK.due("fault(1)", six.fault(1), 17);
+        TwinShelf long8 = Check.with("keeper abcdefgh at 1;keeper abcdefgi at 2;key zzzzzzzz at 1;");
+        CHECK.fine(long8, "names of eight letters", Check.days(long8, "put zzzzzzzz at abcdefgi 1;"), 1);
+        CHECK.not(long8, "nine letters", Check.days(long8, "fall abcdefghi;"), 9);
+        CHECK.due("fault(0)", long8.fault(0), 2);
+        CHECK.not(long8, "seven letters", Check.days(long8, "fall abcdefg;"), 9);
+        CHECK.due("fault(0)", long8.fault(0), 3);
     }
 
     private static void faultTells() {
