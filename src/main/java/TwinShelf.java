@@ -1173,6 +1173,8 @@ public final class TwinShelf {
         static final String ITEMS_OF_PLACES = "nrRwW;";
         static final String ITEMS_OF_KEEPER = "k@K;";
         static final String ITEMS_OF_KEY = "y@Y.";
+        /** The sign that ends a key, and ahead of it perhaps the word sum. */
+        static final char PERHAPS_SUM = '.';
 
         final Shelf shelf = new Shelf();
         private final Reader reader;
@@ -1222,6 +1224,10 @@ public final class TwinShelf {
         private boolean takesItems(String items) {
             for (int i = 0; i < items.length(); i++) {
                 reader.step();
+                if (items.charAt(i) == PERHAPS_SUM && reader.ownWord == Reader.SUM) {
+                    shelf.sums |= 1 << (shelf.keys - 1);
+                    reader.step();
+                }
                 if (!takesItem(items.charAt(i))) {
                     return false;
                 }
@@ -1229,7 +1235,7 @@ public final class TwinShelf {
             return true;
         }
 
-        private boolean takesItem(char item) {
+        private boolean takesItem(int item) {
             switch (item) {
                 case 'n':
                     return takesCopies();
@@ -1255,8 +1261,6 @@ public final class TwinShelf {
                     return isNewName();
                 case 'Y':
                     return takesKeyAt();
-                case '.':
-                    return takesEndOfKey();
                 default:
                     return reader.isSign(';');
             }
@@ -1289,14 +1293,6 @@ public final class TwinShelf {
             shelf.keyAt[shelf.keys] = reader.number;
             shelf.keys++;
             return reader.isNumberFrom(0, RING - 1);
-        }
-
-        private boolean takesEndOfKey() {
-            if (reader.ownWord == Reader.SUM) {
-                shelf.sums |= 1 << (shelf.keys - 1);
-                reader.step();
-            }
-            return reader.isSign(';');
         }
     }
 
@@ -1439,7 +1435,7 @@ public final class TwinShelf {
             return true;
         }
 
-        private boolean takesItem(int line, char item) {
+        private boolean takesItem(int line, int item) {
             switch (item) {
                 case 'v':
                     days.key[line] = shelf.keyNamed(reader.name);

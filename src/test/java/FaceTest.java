@@ -44,6 +44,7 @@ public final class FaceTest {
                 found.add(signature(m));
                 CHECK.due(m.getName() + " is no static one", Modifier.isStatic(m.getModifiers()), false);
             } else {
+                CHECK.due(m.getName() + " bears a name of the face", isFaces(m), false);
                 CHECK.due(m.getName() + " is private", Modifier.isPrivate(m.getModifiers()) || m.isSynthetic(), true);
             }
         }
@@ -79,12 +80,15 @@ public final class FaceTest {
         CHECK.due("fields of " + type.getName() + ": " + own, own <= 20, true);
     }
 
+    private static boolean isFaces(Method m) {
+        return FACE.matches("(?s).*\\b" + Pattern.quote(m.getName()) + "\\(.*");
+    }
+
     private static void insideClass(Class<?> inner) {
         CHECK.due(inner + " is static", Modifier.isStatic(inner.getModifiers()), true);
         fields(inner);
         for (Method m : inner.getDeclaredMethods()) {
-            boolean isFaces = FACE.matches("(?s).*\\b" + m.getName() + "\\(.*");
-            CHECK.due(inner.getName() + "." + m.getName() + " bears a name of the face", isFaces, false);
+            CHECK.due(inner.getName() + "." + m.getName() + " bears a name of the face", isFaces(m), false);
             CHECK.due(m.getName() + " has seven parameters at most", m.getParameterCount() <= 7, true);
         }
     }
