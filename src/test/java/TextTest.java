@@ -142,6 +142,8 @@ public final class TextTest {
         String three = "places 2 reads 1 writes 1;keeper a at 1;keeper b at 2;keeper c at 3;key x at 1;";
         TwinShelf x = Check.with(three);
         x.fall(1, true);
+        // two, so that what is left of the old hint could be told from a new one
+        x.put(0, 0, 8, -1);
         x.put(0, 0, 8, -1);
         CHECK.fine(x, "hints(2)", x.hints(2), 1);
         CHECK.fine(x, "a new shelf", Check.shelf(x, three), 1);
