@@ -296,10 +296,8 @@ public final class TwinShelf {
         if (!isKeeper(a) || !isKeeper(b) || a == b) {
             return refuse(BAD_NUMBER);
         }
-        if (!world.reaches(a, b)) {
-            return refuse(CANT_BE);
-        }
-        return answer(world.compare(a, b));
+        int unlike = world.compare(a, b);
+        return unlike == NONE ? refuse(CANT_BE) : answer(unlike);
     }
 
     public int bury(int key) {
@@ -1763,8 +1761,11 @@ public final class TwinShelf {
             return set;
         }
 
-        /** A NIGHT of two that reach one another: at how many keys they were not like. */
+        /** A NIGHT: at how many keys they were not like, or NONE if it can't be: one and itself are no two. */
         int compare(int a, int b) {
+            if (a == b || !reaches(a, b)) {
+                return NONE;
+            }
             int many = 0;
             for (int key = 0; key < shelf.keys; key++) {
                 if (shelf.areBothPlaces(key, a, b) && !areLike(a, b, key)) {
@@ -2009,7 +2010,7 @@ public final class TwinShelf {
                     tally[HANDED] += world.handOn();
                     break;
                 case Reader.NIGHT:
-                    spendNight(world, keeper, days.other[line]);
+                    tally[MISSED] += world.compare(keeper, days.other[line]) == NONE ? 1 : 0;
                     break;
                 case Reader.STORM:
                     drawStorm(world, number);
@@ -2028,14 +2029,6 @@ public final class TwinShelf {
                 tally[MISSED]++;
             } else {
                 tally[many >= world.shelf.writes ? DONE : NOT_DONE]++;
-            }
-        }
-
-        private void spendNight(World world, int a, int b) {
-            if (world.reaches(a, b)) {
-                world.compare(a, b);
-            } else {
-                tally[MISSED]++;
             }
         }
 

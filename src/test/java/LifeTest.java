@@ -10,6 +10,7 @@ public final class LifeTest {
         steps();
         ticketNought();
         misses();
+        nightsOfOne();
         loops();
         whens();
         stops();
@@ -115,6 +116,21 @@ public final class LifeTest {
         Check.days(x, "loop 40;put x at a 1;end;");
         CHECK.fine(x, "live(0)", x.live(0), 41);
         lived(x, 10, 30, 0, 0, 0, 0);
+    }
+
+    /** night() refuses one and itself, so as a step it can't be, whether the one is UP or not. */
+    private static void nightsOfOne() {
+        TwinShelf x = with("night a a;night d d;fall b;night b b;part a;night a a;heal;night a c;");
+        CHECK.fine(x, "live(0)", x.live(0), 8);
+        lived(x, 4, 0, 0, 0, 0, 0);
+        x = with("put x at a 1;loop 3;night a a;end;night b a;");
+        CHECK.fine(x, "live(0)", x.live(0), 6);
+        lived(x, 3, 1, 0, 0, 0, 0);
+        CHECK.fine(x, "it changes nothing", x.twins(0, 0), 1);
+        x = Check.with("keeper a at 1;key x at 1;");
+        Check.days(x, "night a a;");
+        CHECK.fine(x, "live(0) of the only keeper", x.live(0), 1);
+        lived(x, 1, 0, 0, 0, 0, 0);
     }
 
     private static void loops() {

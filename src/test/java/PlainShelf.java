@@ -624,7 +624,7 @@ final class PlainShelf {
                 case "heal" -> a.parted = 0;
                 case "hand" -> counts[4] += a.hand();
                 case "night" -> {
-                    if (a.reach(t.keeper, t.other)) {
+                    if (t.keeper != t.other && a.reach(t.keeper, t.other)) {
                         a.night(t.keeper, t.other);
                     } else {
                         counts[0]++;
