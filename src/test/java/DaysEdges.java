@@ -25,6 +25,7 @@ final class DaysEdges {
         partAgain(e);
         thirty(e);
         nested(e);
+        behindFault(e);
         order(e);
         taken(e);
     }
@@ -301,6 +302,25 @@ final class DaysEdges {
         fault(e, "when up a;when up a;when up a;when", 7, 30);
         fault(e, "when up a;when up a;when up a;loop", 7, 30);
         fault(e, "loop 1;loop 1;loop 1;heal;end;loop 1;loop", 7, 37);
+    }
+
+    /** What a text with a FAULT had begun is forgotten: the next text begins anew. */
+    private static void behindFault(Edge e) {
+        e.terms("7 a when, loop within three others (at its WORD).");
+        String[] begun = {"loop 2;loop 2;loop 2;heal", "when up a;when up b;when up c;", "loop 2;loop 2;loop 2;loop 2;",
+            "heal;".repeat(31), "part a b c d e", "part a a"};
+        for (String text : begun) {
+            TwinShelf x = Edge.rich();
+            e.due("days of '" + text + "'", Check.days(x, text), -1);
+            e.fine(x, "as many within one another", Check.days(x, "loop 1;loop 1;loop 1;heal;end;end;end;"), 4);
+            e.due("live(0)", x.live(0), 4);
+            e.due("days of '" + text + "' again", Check.days(x, text), -1);
+            e.due("an end alone", Check.days(x, "end;"), -1);
+            e.due("fault(0)", x.fault(0), 2);
+            e.due("fault(1)", x.fault(1), 0);
+            e.fine(x, "thirty STEPS", Check.days(x, "heal;".repeat(30)), 30);
+            e.fine(x, "all to be PARTED", Check.days(x, "part a b c d e;"), 1);
+        }
     }
 
     private static void order(Edge e) {

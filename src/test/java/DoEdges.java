@@ -237,6 +237,10 @@ final class DoEdges {
         e.twin(x, 2, 0, 1, 4, 1, 1);
         e.twin(x, 2, 0, 2, 5, 2, 1);
         e.fine(x, "SEEN of a, more than the TICKET's", x.seen(2, 0, 0), 3);
+        e.fine(x, "get", x.get(0, 2, -1), 3);
+        e.fine(x, "got(0)", x.got(0), 3);
+        e.fine(x, "got(1)", x.got(1), 4);
+        e.fine(x, "got(2)", x.got(2), 5);
         // a TICKET that has SEEN more than the KEEPER
         x.wipe(2);
         x.part(4);
@@ -269,6 +273,11 @@ final class DoEdges {
         e.fine(x, "twins", x.twins(2, 0), 30);
         e.fine(x, "another KEEPER there", x.put(0, 0, 1, -1), 3);
         e.fine(x, "its count", x.twin(0, 0, 0, 2), 1);
+        // a TICKET that has SEEN all thirty: the first goes, too, and the last
+        x.get(0, 0, 0);
+        e.fine(x, "a put with that TICKET", x.put(0, 2, 99, 0), 3);
+        e.fine(x, "all thirty are gone", x.twins(2, 0), 1);
+        e.fine(x, "everywhere", x.twins(1, 0), 1);
         e.not(DoEdges::thirtyGiven, "a 31st put", y -> y.put(0, 1, 31, -1), 7);
         e.not(DoEdges::thirtyGiven, "a 31st strike", y -> y.strike(0, 1, -1), 7);
         e.not(DoEdges::thirtyGiven, "a 31st put with a TICKET", y -> y.put(0, 1, 31, 1), 7);
@@ -557,11 +566,76 @@ final class DoEdges {
             e.fine(x, "it is UP as it was", x.told(5), 1 | 2 | 8 | 16);
             e.fine(x, "TICKETS stay", x.told(7), 7);
         }
+        wipeOfHints(e);
         // HINTS for the wiped one stay with others
         x = Edge.rich();
         int ahead = x.hints(0) + x.hints(1) + x.hints(3) + x.hints(4);
         x.wipe(2);
         e.fine(x, "hints of the others", x.hints(0) + x.hints(1) + x.hints(3) + x.hints(4), ahead);
+    }
+
+    /** f is all there is to WATCH six KEYS of five PLACES each; it has a HINT for each PLACE at each KEY. */
+    private static TwinShelf sixKeys() {
+        TwinShelf x = Check.with("places 5 reads 1 writes 1;keeper a at 0;keeper b at 1;keeper c at 2;keeper d at 3;"
+            + "keeper e at 4;keeper f at 5;key u at 0;key v at 0;key w at 0;key x at 0;key y at 0;key z at 0;");
+        for (int key = 0; key < 6; key++) {
+            for (int place = 0; place < 5; place++) {
+                x.fall(place, true);
+                x.put(key, (place + 1) % 5, 10 * key + place, -1);
+                x.fall(place, false);
+            }
+        }
+        return x;
+    }
+
+    private static void wipeOfHints(Edge e) {
+        for (int keeper = 0; keeper < 6; keeper++) {
+            TwinShelf x = sixKeys();
+            e.fine(x, "hints(5)", x.hints(5), 30);
+            x.wipe(keeper);
+            for (int other = 0; other < 5; other++) {
+                for (int key = 0; key < 6; key++) {
+                    e.due("KEEPER " + other + " has something", x.twins(other, key) > 0, other != keeper);
+                }
+            }
+            e.fine(x, "hints(5)", x.hints(5), keeper == 5 ? 0 : 30);
+            e.fine(x, "hand()", x.hand(), keeper == 5 ? 0 : 30);
+        }
+        TwinShelf x = sixKeys();
+        for (int keeper = 0; keeper < 5; keeper++) {
+            x.wipe(keeper);
+        }
+        e.fine(x, "hand() to wiped ones", x.hand(), 30);
+        for (int keeper = 0; keeper < 5; keeper++) {
+            for (int key = 0; key < 6; key++) {
+                e.fine(x, "what the HINT for " + keeper + " at " + key + " had", x.holders(key, 10 * key + keeper) >> keeper & 1, 1);
+            }
+        }
+        newHints(e, "WIPE", y -> y.wipe(5));
+        newHints(e, "HAND", TwinShelf::hand);
+    }
+
+    /** What a HINT was is gone: of each KEY the next HINT has just what is given. */
+    private static void newHints(Edge e, String what, Edge.Call gone) {
+        for (int key = 0; key < 6; key++) {
+            for (int place = 0; place < 5; place++) {
+                TwinShelf x = sixKeys();
+                gone.on(x);
+                for (int keeper = 0; keeper < 5; keeper++) {
+                    x.wipe(keeper);
+                }
+                int giver = (place + 2) % 5;
+                x.fall(place, true);
+                x.put(key, giver, 999, -1);
+                String hint = "the HINT for " + place + " at " + key + " behind " + what;
+                e.fine(x, hint + ": the old values", x.holders(key, 10 * key + place), 0);
+                e.fine(x, hint + ": the new value", x.holders(key, 999), 63 & ~(1 << place));
+                e.fine(x, hint + ": hints(5)", x.hints(5), 1);
+                x.fall(place, false);
+                x.hand();
+                e.fine(x, hint + ": what is handed on", x.twins(place, key), 1);
+            }
+        }
     }
 
     private static void hands(Edge e) {
@@ -638,6 +712,18 @@ final class DoEdges {
         x.night(0, 1);
         e.fine(x, "of one, with a HINT", x.bury(0), 1);
         e.fine(x, "holders(0, 1000): the HINT's", x.holders(0, 1000), 8);
+        x = Check.with("places 1 reads 1 writes 1;keeper a at 0;keeper b at 1;key x at 1;key y at 0;");
+        x.strike(0, 1, -1);
+        x.strike(1, 0, -1);
+        e.fine(x, "of one PLACE alone", x.bury(0), 1);
+        e.fine(x, "of one PLACE alone at another KEY", x.bury(1), 1);
+        x = Check.with("places 6 reads 1 writes 1;keeper a at 0;keeper b at 1;keeper c at 2;keeper d at 3;keeper e at 4;"
+            + "keeper f at 5;key u at 0;key v at 0;key w at 0;key x at 0;key y at 0;key z at 0;");
+        for (int i = 0; i < 180; i++) {
+            x.strike(5, i % 6, -1);
+        }
+        e.fine(x, "of thirty of each of six, at the last KEY", x.bury(5), 180);
+        e.fine(x, "SEEN stays", x.seen(0, 5, 5), 30);
         // all thirty
         x = Check.with("keeper a at 1;key x at 1;");
         for (int i = 0; i < 30; i++) {

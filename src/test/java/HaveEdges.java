@@ -108,6 +108,16 @@ final class HaveEdges {
         e.twin(x, 1, 0, 179, 179, 5, 30);
         e.due("the 181st", x.twin(1, 0, 180, 0), -1);
         e.due("status()", x.status(), 6);
+        // one beyond the last, where the next KEY has one of the first KEEPER
+        x = Check.with("keeper a at 0;key x at 0;key y at 0;key z at 0;");
+        for (int key = 0; key < 3; key++) {
+            x.put(key, 0, 100 + key, -1);
+        }
+        for (int key = 0; key < 3; key++) {
+            e.twin(x, 0, key, 0, 100 + key, 0, 1);
+            e.due("the second", x.twin(0, key, 1, 0), -1);
+            e.due("status()", x.status(), 6);
+        }
     }
 
     private static void seen(Edge e) {
@@ -365,6 +375,12 @@ final class HaveEdges {
         x.fall(1, true);
         x.put(3, 0, 4, -1);
         e.fine(x, "HINTS are nothing", x.root(2), 13);
+        // of a TWIN that is gone its SEEN alone is left
+        x = Check.with("keeper a at 0;key x at 0;");
+        x.put(0, 0, 50, -1);
+        x.get(0, 0, 0);
+        x.put(0, 0, 60, 0);
+        e.fine(x, "of the second alone", x.root(0), 7 + 60 + 3 * 2);
     }
 
     private static void rootRest(Edge e) {
@@ -602,6 +618,24 @@ final class HaveEdges {
         x = Check.with("places 1 reads 1 writes 1;keeper a at 0;keeper b at 1;key x at 0;");
         x.put(0, 0, 1, -1);
         e.fine(x, "of one PLACE", x.nights(0), 0);
+        // two unlike ones: one NIGHT is enough for both
+        x = Check.with("places 2 reads 1 writes 1;keeper a at 0;keeper b at 1;key x at 0;");
+        for (int keeper = 0; keeper < 2; keeper++) {
+            x.part(1 << keeper);
+            x.put(0, keeper, keeper, -1);
+        }
+        x.part(0);
+        e.fine(x, "two unlike ones", x.nights(0), 1);
+        // of y, whose ROW goes round the ring: its PLACES are d, e and a
+        for (int keeper : new int[] {0, 3, 4}) {
+            x = Check.with(Edge.FIVE);
+            x.part(1 << keeper);
+            x.put(1, keeper, 1, -1);
+            x.part(0);
+            e.fine(x, "two of y are behind " + keeper, x.nights(1), 2);
+            x.night(keeper, (keeper + 1) % 5 == 1 ? 3 : (keeper + 1) % 5);
+            e.fine(x, "one of y is behind " + keeper, x.nights(1), 1);
+        }
         // three unlike ones: two meet, then the third meets both
         x = unlikeThree();
         e.fine(x, "three unlike ones", x.nights(0), 3);

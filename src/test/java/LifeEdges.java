@@ -14,6 +14,7 @@ final class LifeEdges {
         getsIntoTicket(e);
         leftOut(e);
         notDone(e);
+        doneAsCalls(e);
         nightsMissed(e);
         storms(e);
         draws(e);
@@ -159,6 +160,56 @@ final class LifeEdges {
         live(e, "fall b;put x at a 1;strike x at c;", 3, 0, 2, 0, 0, 0, 0);
         live(e, "fall b;fall d;fall e;put x at a 1;", 4, 0, 0, 1, 0, 0, 0);
         live(e, "fall b;fall d;fall c;put x at a 1;", 4, 0, 0, 1, 0, 0, 0);
+    }
+
+    /** Each STEP does what the call of its name does. */
+    private static void doneAsCalls(Edge e) {
+        e.terms("put NAME at NAME NUMBER ; or strike NAME at NAME ; or add NAME at NAME NUMBER ; or get NAME at NAME ; or fall NAME ;"
+            + " or rise NAME ; or wipe NAME ; or part NAME {NAME} ; or heal ; or hand ; or night NAME NAME ;");
+        asCall(e, "put x at b 77;", x -> x.put(0, 1, 77, -1));
+        asCall(e, "put y at d 77;", x -> x.put(1, 3, 77, 0));
+        asCall(e, "strike x at b;", x -> x.strike(0, 1, -1));
+        asCall(e, "strike y at d;", x -> x.strike(1, 3, 0));
+        asCall(e, "add s at d 9;", x -> x.add(2, 3, 9));
+        asCall(e, "get x at d;", x -> x.get(0, 3, 0));
+        asCall(e, "get s at d;", x -> x.get(2, 3, 0));
+        asCall(e, "hand;", TwinShelf::hand);
+        asCall(e, "heal;", x -> x.part(0));
+        asCall(e, "part e;", x -> x.part(16));
+        asCall(e, "part e a;", x -> x.part(17));
+        asCall(e, "part d c b;", x -> x.part(14));
+        asCall(e, "night a b;", x -> x.night(0, 1));
+        asCall(e, "night d a;", x -> x.night(3, 0));
+        for (int i = 0; i < 5; i++) {
+            int keeper = i;
+            char name = (char) ('a' + i);
+            asCall(e, "fall " + name + ";", x -> x.fall(keeper, true));
+            asCall(e, "rise " + name + ";", x -> x.fall(keeper, false));
+            asCall(e, "wipe " + name + ";", x -> x.wipe(keeper));
+        }
+    }
+
+    private static void asCall(Edge e, String step, Edge.Call call) {
+        TwinShelf x = Edge.rich();
+        TwinShelf y = Edge.rich();
+        for (int turn = 0; turn < 2; turn++) {
+            Check.days(x, step);
+            e.fine(x, "live(0) of '" + step + "'", x.live(0), 1);
+            call.on(y);
+            e.due("status() of the call behind '" + step + "'", y.status() == 0 || y.status() == 7, true);
+            e.fine(x, "lived(0) of '" + step + "'", x.lived(0), y.status() == 0 ? 0 : 1);
+            e.same("'" + step + "' as the call", Probe.kept(x), Probe.kept(y));
+            // and with c risen, who has HINTS to come
+            x.fall(2, false);
+            y.fall(2, false);
+            x.part(0);
+            y.part(0);
+        }
+        Check.days(x, "");
+        Check.days(y, "");
+        x.live(0);
+        y.live(0);
+        e.same("what is done behind '" + step + "'", Probe.deep(x), Probe.deep(y));
     }
 
     private static void nightsMissed(Edge e) {
@@ -525,6 +576,18 @@ final class LifeEdges {
         fraction(e, x, 0, 4, 0);
         x = with("", "heal;");
         fraction(e, x, 0, 4, 4);
+        String six = "places 2 reads 1 writes 1;keeper a at 0;keeper b at 1;keeper c at 2;keeper d at 3;keeper e at 4;"
+            + "keeper f at 5;key u at 0;key v at 1;key w at 2;key x at 3;key y at 4;key z at 5;";
+        fraction(e, with(six, "put z at f 1;"), 0, 7, 7);
+        fraction(e, with(six, "part f;put z at f 1;"), 0, 7, 0);
+        // TICKET 0, and its KEY, are there for each seed as they are now
+        x = with("keeper a at 0;keeper b at 1;key x at 0;key y at 0;",
+            "put x at a 1;when twins x at a > 1;part a;put x at a 2;end;get y at a;");
+        x.put(0, 0, 5, -1);
+        x.get(0, 0, 0);
+        fraction(e, x, 0, 20, 20);
+        x.get(1, 0, 0);
+        fraction(e, x, 0, 20, 0);
         // each seed begins with what is now
         x = with(ONE, "loop 20;put x at a 1;end;when twins x at a > 20;wipe a;end;");
         fraction(e, x, 0, 20, 20);
@@ -619,6 +682,14 @@ final class LifeEdges {
         e.fine(x, "back() behind another SHELF", x.back(), 2);
         e.same("all that a MARK keeps", Probe.kept(x), due);
         e.same("what is done from there", Probe.deep(x), dueThen);
+        // of a TICKET its KEY, too
+        x = Check.with(Edge.FIVE);
+        x.get(0, 0, 2);
+        x.mark();
+        x.get(1, 0, 2);
+        e.fine(x, "its KEY behind the MARK", x.ticket(2, -1), 1);
+        x.back();
+        e.fine(x, "its KEY", x.ticket(2, -1), 0);
         // the latest, and then the one ahead of it
         x = marked(3);
         for (int left = 2; left >= 0; left--) {

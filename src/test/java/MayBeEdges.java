@@ -136,6 +136,12 @@ final class MayBeEdges {
         e.fine(x, "lost(63) of six", x.lost(63), 1);
         e.due("lost(64) of six", x.lost(64), -1);
         e.due("status()", x.status(), 1);
+        x = Check.with(SIX.replace("key x at 0;key s at 0 sum;", "key u at 0;key v at 0;key w at 0;key x at 0;key y at 0;key z at 0;"));
+        for (int key = 0; key < 6; key++) {
+            e.fine(x, "lost(63) of " + key + " KEYS", x.lost(63), key);
+            x.put(key, 5 - key, 7, -1);
+        }
+        e.fine(x, "lost(63) of six KEYS", x.lost(63), 6);
     }
 
     /** Each of x's six PLACES has a value of its own. */
@@ -206,6 +212,39 @@ final class MayBeEdges {
         x.put(0, 1, 5, -1);
         x.part(0);
         e.fine(x, "5 6 and 6 5 and nothing", x.answers(0, 0), 3);
+        // like rows of two values, and of three of which the last or the second is unlike
+        x = put(one, 5, 5, 5);
+        for (int keeper = 0; keeper < 3; keeper++) {
+            x.part(1 << keeper);
+            x.put(0, keeper, 6, -1);
+        }
+        x.part(0);
+        e.fine(x, "5 6 of each", x.answers(0, 0), 1);
+        for (int keeper = 0; keeper < 3; keeper++) {
+            x.part(1 << keeper);
+            x.put(0, keeper, 7 + keeper / 2, -1);
+        }
+        x.part(0);
+        e.fine(x, "5 6 7 of two, 5 6 8 of one", x.answers(0, 0), 2);
+        // what was told ahead of it is of no account, for a sum, or for shorter rows
+        x.put(0, 0, 8, -1);
+        for (int keeper = 0; keeper < 3; keeper++) {
+            x.wipe(keeper);
+            x.part(1 << keeper);
+            x.put(0, keeper, 5, -1);
+            x.put(0, keeper, 6 + keeper, -1);
+        }
+        x.part(0);
+        e.fine(x, "5 6, 5 7 and 5 8", x.answers(0, 0), 3);
+        x.add(2, 2, 3);
+        e.fine(x, "of a sum, behind these", x.answers(2, 0), 1);
+        for (int keeper = 0; keeper < 3; keeper++) {
+            x.wipe(keeper);
+            x.part(1 << keeper);
+            x.put(0, keeper, 5, -1);
+        }
+        x.part(0);
+        e.fine(x, "5 of each, behind these", x.answers(0, 0), 1);
         // unlike in SEEN alone
         x = Edge.fallen(1);
         x.strike(0, 0, -1);
@@ -307,11 +346,21 @@ final class MayBeEdges {
         x.part(2);
         x.put(0, 1, 6, 0);
         x.part(0);
+        x.get(0, 4, -1);
         List<String> ahead = Probe.kept(x);
+        // a and b were asked and have 6; c has nothing
+        fraction(e, x, 0, 0, 5, 0, 1);
+        fraction(e, x, 0, 0, 6, 1, 1);
+        e.same("odds() changes the FRACTION alone", Probe.kept(x), ahead);
+        x = put(Edge.FIVE, 5, -1, -1);
+        x.night(0, 1);
+        x.get(0, 1, 0);
+        x.part(2);
+        x.put(0, 1, 6, 0);
+        x.part(0);
         // a, c: 5; a, b: 6; b, c: 6
         fraction(e, x, 0, 0, 5, 1, 3);
         fraction(e, x, 0, 0, 6, 2, 3);
-        e.same("odds() changes the FRACTION alone", Probe.kept(x), ahead);
     }
 
     private static void oddsOfReads(Edge e) {

@@ -32,7 +32,9 @@ final class ShelfEdges {
         places(e);
         faultKinds(e);
         faultOrder(e);
+        behindFault(e);
         taken(e);
+        otherPlaces(e);
         faultTells(e);
         told(e);
         rowRefusals(e);
@@ -486,6 +488,48 @@ final class ShelfEdges {
         e.fine(y, "told(5)", y.told(5), 0);
         e.due("hints(0)", y.hints(0), -1);
         e.due("status()", y.status(), 1);
+    }
+
+    /** What a text with a FAULT had begun is forgotten: the next text begins anew. */
+    private static void behindFault(Edge e) {
+        e.says(10, "9: the old one stays");
+        String[] begun = {"places 5 reads 4 writes 4;", SIX_KEEPERS, SIX_KEYS.replace(";", " sum;"),
+            "places 2 reads 2 writes 2;" + SIX_KEYS + SIX_KEEPERS};
+        for (String text : begun) {
+            TwinShelf x = Edge.rich();
+            e.due("shelf of '" + text + "!'", Check.shelf(x, text + "!"), -1);
+            e.fine(x, "told(0) of the old one", x.told(0), 3);
+            e.fine(x, "told(3) of the old one", x.told(3), 5);
+            e.fine(x, "told(4) of the old one", x.told(4), 3);
+            e.fine(x, "places(1) of the old one", x.places(1), 1 | 8 | 16);
+            e.fine(x, "all that goes in", Check.shelf(x, SIX_KEYS + SIX_KEEPERS), 6);
+            e.fine(x, "told(0)", x.told(0), 3);
+            e.fine(x, "told(1)", x.told(1), 1);
+            e.fine(x, "told(2)", x.told(2), 1);
+            e.fine(x, "no sum", x.put(0, 0, 1, -1), 3);
+            e.due("shelf of '" + text + "!'", Check.shelf(x, text + "!"), -1);
+            e.fine(x, "places told once", Check.shelf(x, "places 4 reads 1 writes 1;"), 0);
+        }
+    }
+
+    private static void otherPlaces(Edge e) {
+        e.terms("A SHELF that is taken is there in place of that ahead");
+        TwinShelf x = Check.with(SIX_KEEPERS + SIX_KEYS);
+        int[] dueThree = {7, 14, 28, 56, 49, 35};
+        int[] dueOne = {32, 1, 2, 4, 8, 16};
+        for (int turn = 0; turn < 2; turn++) {
+            for (int key = 0; key < 6; key++) {
+                e.fine(x, "places(" + key + ")", x.places(key), dueThree[key]);
+                e.fine(x, "row(" + key + ", 0)", x.row(key, 0), key);
+            }
+            e.fine(x, "the other SHELF", Check.shelf(x, "places 1 reads 1 writes 1;keeper b at 1;keeper c at 2;keeper d at 3;"
+                + "keeper e at 4;keeper f at 5;keeper a at 0;key z at 999;key u at 1;key v at 2;key w at 3;key x at 4;key y at 5;"), 6);
+            for (int key = 0; key < 6; key++) {
+                e.fine(x, "places(" + key + ") of the other", x.places(key), dueOne[key]);
+            }
+            e.fine(x, "load(5)", x.load(5), 1);
+            e.fine(x, "the first SHELF again", Check.shelf(x, SIX_KEEPERS + SIX_KEYS), 6);
+        }
     }
 
     private static void faultTells(Edge e) {
