@@ -12,10 +12,15 @@ final class DoEdges {
         joinOfParts(e);
         orderOfTwins(e);
         parted(e);
+        reached(e);
+        seenUpTo(e);
         placesThatPut(e);
         ticketsOfPut(e);
         ticketLoses(e);
         thirtyDots(e);
+        strikes(e);
+        givenToPlaces(e);
+        givenAsHint(e);
         watchers(e);
         watchersInOrder(e);
         hintsJoined(e);
@@ -23,6 +28,7 @@ final class DoEdges {
         addNumbers(e);
         getAsks(e);
         getTooFew(e);
+        getTold(e);
         ticketsOfGet(e);
         fallAndWipe(e);
         hands(e);
@@ -185,6 +191,51 @@ final class DoEdges {
         }
     }
 
+    private static void reached(Edge e) {
+        e.terms("Two KEEPERS REACH one another if both are UP and no PART is between them.");
+        for (int up = 0; up < 4; up++) {
+            for (int set = 0; set < 4; set++) {
+                TwinShelf x = Check.with(TWO);
+                x.fall(0, (up & 1) == 0);
+                x.fall(1, (up & 2) == 0);
+                x.part(set);
+                int due = up == 3 && (set == 0 || set == 3) ? 1 : 0;
+                e.fine(x, "reach(0, 1)", x.reach(0, 1), due);
+                e.fine(x, "reach(1, 0)", x.reach(1, 0), due);
+                e.fine(x, "reach(0, 0)", x.reach(0, 0), up & 1);
+                e.due("night(0, 1)", x.night(0, 1), due == 1 ? 0 : -1);
+                if ((up & 1) == 1) {
+                    e.fine(x, "put", x.put(0, 0, 1, -1), 1 + due);
+                    e.fine(x, "get", x.get(0, 0, -1), 1);
+                }
+            }
+        }
+    }
+
+    private static void seenUpTo(Edge e) {
+        e.terms("and SEEN: for each KEEPER up to which count all its DOTS there were taken in.");
+        TwinShelf x = Check.with(TWO);
+        x.put(0, 0, 1, -1);
+        x.part(1);
+        x.put(0, 0, 2, -1);
+        x.put(0, 0, 3, -1);
+        e.fine(x, "b took in the first", x.seen(1, 0, 0), 1);
+        x.part(0);
+        x.night(0, 1);
+        e.fine(x, "b took in all", x.seen(1, 0, 0), 3);
+        x.get(0, 0, 0);
+        x.put(0, 1, 4, 0);
+        e.fine(x, "TWINS are gone, SEEN stays", x.seen(0, 0, 0), 3);
+        e.fine(x, "twins(0, 0)", x.twins(0, 0), 1);
+        // who was wiped begins with 0, and with the next DOT has SEEN all of its own
+        x.wipe(0);
+        e.fine(x, "wiped", x.seen(0, 0, 0), 0);
+        x.put(0, 0, 5, -1);
+        e.fine(x, "its fourth", x.seen(0, 0, 0), 4);
+        e.fine(x, "of b it has SEEN none", x.seen(0, 0, 1), 0);
+        e.fine(x, "b has both", x.twins(1, 0), 2);
+    }
+
     private static void placesThatPut(Edge e) {
         e.terms("PUT of a value at a KEY (no sum) by a KEEPER, one of its PLACES that is UP");
         TwinShelf x = Check.with(Edge.FIVE);
@@ -298,6 +349,77 @@ final class DoEdges {
         e.due("the 31st", x.put(1, 0, 1, -1), -1);
         e.fine(x, "at another KEY", x.put(0, 0, 1, -1), 3);
         e.fine(x, "its count", x.twin(0, 0, 0, 2), 1);
+    }
+
+    private static void strikes(Edge e) {
+        e.terms("So a STRIKE with a GRAVE as the value.");
+        TwinShelf x = Check.with(Edge.FIVE);
+        x.put(0, 0, 1, -1);
+        x.get(0, 1, 0);
+        x.put(0, 2, 2, -1);
+        e.fine(x, "strike without a TICKET", x.strike(0, 1, -1), 3);
+        e.fine(x, "nothing is gone", x.twins(2, 0), 3);
+        e.fine(x, "strike with a TICKET", x.strike(0, 1, 0), 3);
+        e.fine(x, "what it has SEEN is gone", x.twins(2, 0), 3);
+        e.twin(x, 2, 0, 0, 1000, 1, 1);
+        e.twin(x, 2, 0, 1, 1000, 1, 2);
+        e.twin(x, 2, 0, 2, 2, 2, 1);
+    }
+
+    private static void givenToPlaces(Edge e) {
+        e.terms("Then it is given to all other PLACES that it REACHES, in the order of the ROW, who JOIN it to what they have");
+        TwinShelf x = Check.with(Edge.FIVE);
+        x.part(1);
+        x.put(0, 0, 1, -1);
+        x.get(0, 0, 0);
+        x.put(0, 1, 2, -1);
+        x.part(1 | 2);
+        // a gives all that it has: b has its own, too; c is not reached
+        e.fine(x, "put", x.put(0, 0, 3, -1), 2);
+        e.fine(x, "a has its own", x.twins(0, 0), 2);
+        e.fine(x, "b has them, too", x.twins(1, 0), 3);
+        e.twin(x, 1, 0, 0, 1, 0, 1);
+        e.twin(x, 1, 0, 1, 3, 0, 2);
+        e.twin(x, 1, 0, 2, 2, 1, 1);
+        e.fine(x, "c has not", x.twins(2, 0), 1);
+        e.fine(x, "no WATCHER has", x.twins(3, 0) + x.twins(4, 0), 0);
+        x.part(0);
+        // with JOIN goes what the giver has lost
+        x.night(0, 1);
+        x.get(0, 1, 0);
+        e.fine(x, "put with a TICKET that has SEEN all", x.put(0, 0, 4, 0), 3);
+        for (int keeper = 0; keeper < 3; keeper++) {
+            e.fine(x, "twins(" + keeper + ", 0)", x.twins(keeper, 0), 1);
+            e.twin(x, keeper, 0, 0, 4, 0, 3);
+        }
+    }
+
+    private static void givenAsHint(Edge e) {
+        e.terms(": what is given, for that one");
+        TwinShelf x = Edge.fallen(1);
+        x.put(0, 2, 1, -1);
+        x.wipe(3);
+        x.put(0, 0, 2, -1);
+        // d has a new HINT with all that a has: the TWIN of c, too
+        e.fine(x, "holders(0, 1)", x.holders(0, 1), 1 | 4 | 8);
+        e.fine(x, "holders(0, 2)", x.holders(0, 2), 1 | 4 | 8);
+        x.fall(1, false);
+        e.fine(x, "hand()", x.hand(), 1);
+        e.fine(x, "b has both", x.twins(1, 0), 2);
+        e.fine(x, "SEEN, too", x.seen(1, 0, 2), 1);
+        e.fine(x, "LIKE the giver", x.like(0, 1, 0), 1);
+        e.fine(x, "d has nothing itself", x.twins(3, 0) + x.seen(3, 0, 0), 0);
+        // what is not reached later on is not of the HINT
+        x = Edge.fallen(1);
+        x.put(0, 0, 1, -1);
+        x.part(8);
+        x.put(0, 0, 2, -1);
+        x.part(0);
+        e.fine(x, "d's HINT is the old one, e's the new one", x.holders(0, 2), 1 | 4 | 16);
+        e.fine(x, "both have the first", x.holders(0, 1), 1 | 4 | 8 | 16);
+        x.fall(1, false);
+        e.fine(x, "hand() of both", x.hand(), 2);
+        e.fine(x, "b has both", x.twins(1, 0), 2);
     }
 
     private static void hints(Edge e, TwinShelf x, int... due) {
@@ -517,6 +639,42 @@ final class DoEdges {
         e.terms("GET of a KEY by a KEEPER that is UP");
         e.not(() -> Edge.fallen(4), "by one that is not UP", y -> y.get(0, 4, -1), 7);
         e.not(() -> Edge.fallen(0), "by a PLACE that is not UP", y -> y.get(0, 0, -1), 7);
+    }
+
+    private static void getTold(Edge e) {
+        e.terms("What they have is JOINED, told, each of those asked has that then;");
+        TwinShelf x = Check.with(Edge.FIVE);
+        for (int keeper = 0; keeper < 3; keeper++) {
+            x.part(1 << keeper);
+            x.put(0, keeper, 10 + keeper, -1);
+        }
+        x.part(0);
+        e.fine(x, "get by e", x.get(0, 4, -1), 2);
+        e.fine(x, "got(0)", x.got(0), 10);
+        e.fine(x, "got(1)", x.got(1), 11);
+        e.fine(x, "a and b have that", x.like(0, 1, 0), 1);
+        e.fine(x, "twins(0, 0)", x.twins(0, 0), 2);
+        e.fine(x, "SEEN, too", x.seen(0, 0, 1) + x.seen(1, 0, 0), 2);
+        e.fine(x, "c was not asked", x.twins(2, 0), 1);
+        e.fine(x, "e asked, and has it not", x.twins(4, 0) + x.seen(4, 0, 0), 0);
+        // c, the last of its ROW, asks a and b, not itself
+        e.fine(x, "get by c", x.get(0, 2, -1), 2);
+        e.fine(x, "c has its own alone", x.twins(2, 0), 1);
+        x.fall(1, true);
+        e.fine(x, "get by c of a and c", x.get(0, 2, -1), 3);
+        e.fine(x, "a has all", x.twins(0, 0), 3);
+        e.fine(x, "c has all", x.twins(2, 0), 3);
+        e.fine(x, "b has what it had", x.twins(1, 0), 2);
+        // of a sum
+        x = Check.with(Edge.FIVE);
+        x.part(4);
+        x.add(2, 2, 3);
+        x.add(2, 3, 4);
+        x.part(0);
+        e.fine(x, "get of a sum by a", x.get(2, 0, -1), 7);
+        e.fine(x, "c has both PARTS", x.partOf(2, 2, 3), 4);
+        e.fine(x, "d has both PARTS", x.partOf(3, 2, 2), 3);
+        e.fine(x, "e was not asked", x.partOf(4, 2, 2), 0);
     }
 
     private static void ticketsOfGet(Edge e) {

@@ -16,6 +16,7 @@ final class StatusEdges {
         noStatus(e);
         answersThatAreMinusOne(e);
         kinds(e);
+        firstOfThese(e);
         setsWithOthers(e);
         tapeAndFault(e);
     }
@@ -182,6 +183,27 @@ final class StatusEdges {
         e.not(Edge::rich, "it can't be", x -> x.put(0, 2, 1, -1), 7);
         e.not(Edge::rich, "TRAYS are of unlike sorts", x -> x.pour(0, 0, 2, 0, 0), 8);
         e.faulty(Edge::rich, "a FAULT", x -> Check.shelf(x, "!"), 1, 0);
+    }
+
+    private static void firstOfThese(Edge e) {
+        e.terms("STATUS of a call is the first of these that holds: 1 a number that can't be");
+        e.not(Edge::rich, "1 ahead of 2 and 3", x -> x.read(4, 99), 1);
+        e.not(Edge::rich, "2 ahead of 3", x -> x.write(3, 99, 1), 2);
+        e.not(Edge::rich, "2 ahead of 3, below", x -> x.write(3, -1, 1), 2);
+        e.not(Edge::rich, "1 ahead of 6 and 7", x -> x.put(0, 3, -1, 3), 1);
+        e.not(Edge::rich, "6 ahead of 7", x -> x.put(0, 3, 1, 3), 6);
+        e.not(Edge::rich, "1 ahead of 7", x -> x.night(2, 2), 1);
+        e.not(() -> Check.with("keeper a at 0;keeper b at 1;keeper c at 2;keeper d at 3;keeper e at 4;keeper f at 5;key x at 0;"),
+            "4 ahead of 7", x -> x.moved(5), 4);
+        e.not(() -> Check.with("keeper a at 0;keeper b at 1;keeper c at 2;keeper d at 3;keeper e at 4;keeper f at 5;key x at 0;"),
+            "1 ahead of 4", x -> x.moved(1000), 1);
+        e.not(() -> Check.with(Edge.FIVE), "1 ahead of 6", x -> x.agreed(9999, 2), 1);
+        e.not(Edge::richFed, "1 ahead of 9", x -> x.shelf(41), 1);
+        e.not(() -> {
+            TwinShelf x = Edge.rich();
+            Check.feed(x, "!".repeat(320));
+            return x;
+        }, "1 ahead of 9 of days()", x -> x.days(301), 1);
     }
 
     private static void setsWithOthers(Edge e) {
